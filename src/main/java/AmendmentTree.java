@@ -1219,7 +1219,7 @@ public final class AmendmentTree {
         private void learnTop() {
             top[0] = indexOfMostBeating();
             topSize = 1;
-            for (int done = 0; done < topSize; done++) {
+            for (int done = 0; done < topSize && done < MOST_OPEN; done++) {
                 for (int i = 0; i < size && topSize < MOST_OPEN; i++) {
                     if (!isBeaten(top[done], i) && !isOfTop(i)) {
                         top[topSize] = i;

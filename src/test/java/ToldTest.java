@@ -81,8 +81,8 @@ public final class ToldTest {
         Talk.tell(x, "amend bill+a;amend bill+b;");
         check.due("least anew", 0, x.motion(0, 4));
         check.due("two orders", 2, x.count(5));
-        check.due("five of five", 720, Talk.told("amend bill+a;".repeat(6)).count(5));
-        check.due("one above all", 120, Talk.told("sub a;" + "amend sub+b;".repeat(5)).count(5));
+        check.due("six free motions", 720, Talk.told("amend bill+a;".repeat(6)).count(5));
+        check.due("one behind all", 120, Talk.told("sub a;" + "amend sub+b;".repeat(5)).count(5));
         check.due("a chain", 1, Talk.told("sub a;amend sub+b;amend 1+c;").count(5));
     }
 
