@@ -868,7 +868,8 @@ public final class AmendmentTree {
         }
 
         private boolean isPreferred(int voter, int form, int other) {
-            return likingOf(voter, form) > likingOf(voter, other);
+            int row = voter * FORMS;
+            return liking[row + form] > liking[row + other];
         }
 
         private int countPreferring(int form, int other) {
