@@ -184,8 +184,15 @@ public final class BoundsFormsTest {
             check.due("promise 23: is " + form + " OPEN", open, x.standing(form, 2) != -1);
         }
         Talk.tell(x, "bill c;");
-        check.due("promise 23: one that was OPEN", -1, x.standing(2, 0));
+        for (int what = 0; what < 3; what++) {
+            check.due("promise 23: 2 was OPEN", -1, x.standing(2, what));
+            check.due("promise 23: 6 was OPEN", -1, x.standing(6, what));
+        }
         check.due("promise 23: one that is now", 1, x.standing(4, 0));
+        AmendmentTree most = Talk.told("bill h;" + SIX);
+        for (int form : new int[] {1, 127, 192, 255, 256, -1}) {
+            check.due("promise 23: not one of 65, " + form, -1, most.standing(form, 0));
+        }
     }
 
     private static void topOfOne() {

@@ -3,6 +3,7 @@ import java.util.Random;
 /** Long runs of drawn calls (always the same ones), each answer held against the Model's. */
 public final class ModelTest {
     private static final int RUNS = 400;
+    /** A last text takes up to 25 calls more, and no object is used for more than 512. */
     private static final int CALLS = 480;
     private static final String[] WORDS = {"bill", "sub", "amend", "voter", "joint", "quota", "a", "h", "ab", "i", "0",
         "1", "9", "10", "999", "0000", "+", "-", ";", ";", " ", "\n", "x", "\u00e9"};
@@ -146,13 +147,15 @@ public final class ModelTest {
     }
 
     private static int drawForm() {
-        return below(3) == 0 ? draw(256) : tree.open(below(tree.count(7)));
+        return below(3) == 0 ? draw(256) : model.open(below(model.count(7)));
     }
 
     private static int drawRow() {
-        int motions = tree.count(0);
-        if (below(3) == 0 && tree.count(1) > 0) {
-            return tree.best(below(tree.count(1)), below(1 << tree.count(1)), 1);
+        int motions = model.count(0);
+        int voters = model.count(1);
+        if (below(3) == 0 && voters > 0) {
+            calls++;
+            return tree.best(below(voters), below(1 << voters), 1);
         }
         int row = 0;
         int[] left = random.ints(0, 1000).distinct().limit(motions).toArray();
@@ -167,8 +170,8 @@ public final class ModelTest {
     }
 
     private static void call() {
-        int motions = tree.count(0);
-        int voters = tree.count(1);
+        int motions = model.count(0);
+        int voters = model.count(1);
         int t = below(3) == 0 ? 0 : draw(1 << voters);
         int voter = draw(voters);
         int motion = draw(motions);
@@ -237,7 +240,7 @@ public final class ModelTest {
         int form = drawForm();
         int other = drawForm();
         int what = draw(3);
-        int i = draw(tree.count(7) + 1);
+        int i = draw(model.count(7) + 1);
         switch (below(4)) {
             case 0:
                 due("prefers", model.prefers(form, other), tree.prefers(form, other));
