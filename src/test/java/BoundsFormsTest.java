@@ -58,6 +58,7 @@ public final class BoundsFormsTest {
         check.due("promise 20: by 1 more", 1, x.prefers(4, 3));
     }
 
+    /** "How many VOTERS PREFER a FORM to another one": none to nine. */
     private static void prefersCountsVoters() {
         for (int voters = 0; voters <= 9; voters++) {
             AmendmentTree x = Talk.told("voter h1;".repeat(voters) + "voter h-1;".repeat(9 - voters));
@@ -141,6 +142,7 @@ public final class BoundsFormsTest {
                 Talk.told("bill a;voter a1;voter;voter;").winner());
     }
 
+    /** "WINNER: the OPEN FORM that BEATS all other ones", wherever it stands among 65. */
     private static void winnerOfMost() {
         AmendmentTree x = Talk.told("bill h;" + SIX + "voter a1b1c1d1e1f1h1;");
         check.due("promise 22: the last of 65", 128 + 63, x.winner());
@@ -177,6 +179,7 @@ public final class BoundsFormsTest {
         }
     }
 
+    /** "Of an OPEN FORM .. NONE: it is none": of all 256, and of such as were OPEN by an earlier text. */
     private static void standingOfFormsThatAreNotOpen() {
         AmendmentTree x = Talk.told("bill b;amend bill+c;voter b1;");
         for (int form = 0; form < 256; form++) {
@@ -195,6 +198,7 @@ public final class BoundsFormsTest {
         }
     }
 
+    /** "TOP: the least set of OPEN FORMS, not empty": one is enough. */
     private static void topOfOne() {
         AmendmentTree x = new AmendmentTree();
         check.due("promise 23: 0 alone is of TOP", 1, x.standing(0, 0));

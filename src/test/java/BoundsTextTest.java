@@ -85,6 +85,7 @@ public final class BoundsTextTest {
         check.due("promise 2: feed behind tell", 20, blank(x));
     }
 
+    /** "NONE, and none come: more than 400": the last TAPE that takes twenty more, and the first that does not. */
     private static void feedAt380And381() {
         for (int bytes = 361; bytes < 400; bytes++) {
             AmendmentTree x = filled(400);
@@ -99,6 +100,7 @@ public final class BoundsTextTest {
         }
     }
 
+    /** "NONE, and none come". */
     private static void feedRefusedAddsNothing() {
         String text = "bill a;" + " ".repeat(374);
         AmendmentTree x = new AmendmentTree();
@@ -161,6 +163,7 @@ public final class BoundsTextTest {
         check.due("promise 3: 400 left", 400, full.count(6));
     }
 
+    /** "false: it has not so many, n is below 0": the TAPE is what it was. */
     private static void endRefusedChangesNothing() {
         AmendmentTree x = new AmendmentTree();
         Talk.feed(x, "bill a;quota 3;bill");
@@ -201,6 +204,7 @@ public final class BoundsTextTest {
         check.due("promise 4: its BILL", 2, x.count(4));
     }
 
+    /** "The TAPE .. is told: how many STATEMENTS": none of no bytes, and all is told anew. */
     private static void tellOfAnEmptyTape() {
         AmendmentTree x = Talk.told(STANDING);
         check.due("promise 4: no STATEMENTS", 0, x.tell());

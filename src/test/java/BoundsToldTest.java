@@ -94,6 +94,7 @@ public final class BoundsToldTest {
         }
     }
 
+    /** "false: there are none such, it can't be": all WEIGHTS are what they were. */
     private static void weighRefusedChangesNothing() {
         AmendmentTree x = Talk.told(HALL);
         for (int far : FAR) {
@@ -180,6 +181,7 @@ public final class BoundsToldTest {
         }
     }
 
+    /** "false: it is so": as it always is of no MOTION, and of one. */
     private static void orderWithoutMotions() {
         AmendmentTree x = new AmendmentTree();
         check.due("promise 7: of no MOTIONS it is so", false, x.order(0));
@@ -193,6 +195,7 @@ public final class BoundsToldTest {
         }
     }
 
+    /** "4 bits each, the first lowest (what is beyond must be 0)": of the most MOTIONS. */
     private static void orderOfSix() {
         AmendmentTree x = Talk.told(SIX);
         check.due("promise 7: it is so", false, x.order(0x543210));
@@ -209,6 +212,7 @@ public final class BoundsToldTest {
         check.due("promise 7: far beyond", false, x.order(0xFF543210));
     }
 
+    /** "false: it is so, it is not GOOD": THE ORDER is what it was. */
     private static void orderRefusedChangesNothing() {
         AmendmentTree x = Talk.told(HALL);
         x.order(0x012);
@@ -261,6 +265,7 @@ public final class BoundsToldTest {
         check.due("promise 8: QUOTA not told again", 2, x.count(3));
     }
 
+    /** "4: the BILL": "(0 at first)", and up to all CLAUSES. */
     private static void countBill() {
         check.due("promise 8: no BILL", 0, Talk.told("sub a;").count(4));
         check.due("promise 8: the least BILL", 1, Talk.told("bill a;").count(4));
@@ -285,6 +290,7 @@ public final class BoundsToldTest {
         check.due("promise 8: whatever THE ORDER is", 720, x.count(5));
     }
 
+    /** "6: bytes of the TAPE": none to 400. */
     private static void countBytes() {
         AmendmentTree x = new AmendmentTree();
         Talk.feed(x, "a");

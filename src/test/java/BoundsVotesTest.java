@@ -271,6 +271,7 @@ public final class BoundsVotesTest {
         }
     }
 
+    /** "the MOTION's number (PASSAGE: p), :, how many vote yes, -, how many no, + if it is ADOPTED (passes) or ., ;". */
     private static void minutesBytes() {
         AmendmentTree x = Talk.told(SIX + "voter a1b-1c1d-1e1f-1;");
         check.due("promise 16: all votes", "0:1-0+;1:0-1.;2:1-0+;3:0-1.;4:1-0+;5:0-1.;p:1-0+;", Talk.minutes(x, 1));
@@ -397,6 +398,7 @@ public final class BoundsVotesTest {
         }
     }
 
+    /** "5: GOOD ORDERS (of no MOTIONS: 1)": best has that one then. */
     private static void bestWithoutMotions() {
         AmendmentTree x = Talk.told("bill a;voter a-9;voter a1;quota 1;");
         check.due("promise 19: RESULT without MOTIONS", 1, x.best(0, 0, 0));
